@@ -557,18 +557,12 @@ public final class LastWord {
                 if (token == END) {
                     return items;
                 }
-                if (!readItem(target)) {
+                boolean told = token == 'w' ? readWriter(target) : token == 't' && readTerm(target);
+                if (!told || !readSemicolon()) {
                     break;
                 }
             }
             return -10 - start;
-        }
-
-        private boolean readItem(Page target) {
-            if (token == 'w') {
-                return readWriter(target) && readSign(';');
-            }
-            return token == 't' && readTerm(target) && readSign(';');
         }
 
         private boolean readWriter(Page target) {
@@ -600,9 +594,9 @@ public final class LastWord {
             return true;
         }
 
-        private boolean readSign(int sign) {
+        private boolean readSemicolon() {
             nextToken();
-            return token == sign;
+            return token == ';';
         }
 
         private boolean readNumber(int least, int most) {

@@ -17,6 +17,7 @@ public final class CourseTest {
         keepsLeavesOne();
         lateFirst();
         lateFirstOfSeveral();
+        lateFirstAtLast();
         peace();
         peaceOfSeveral();
         nothingIsChanged();
@@ -157,6 +158,9 @@ public final class CourseTest {
     }
 
     private static void keepsLeavesOne() {
+        LastWord slow = Check.told("t8;w1 5 0 0 0 0 0;w9 5 9 0 0 0 0;");
+        slow.writes(0, 0);
+        Check.due("18 no time for one", 0, slow.keeps(1));
         LastWord x = Check.told("t5;w1 5 0 0 0 0 0;w9 5 9 0 0 0 0;w3 5 8 0 0 0 0;");
         x.writes(0, 0);
         Check.days(x, 3);
@@ -189,6 +193,28 @@ public final class CourseTest {
         x.writes(1, 0);
         Check.due("19 DAYS", 2, x.lateFirst(0));
         Check.due("19 of the lowest QUARREL", 1, x.lateFirst(1));
+    }
+
+    private static void lateFirstAtLast() {
+        LastWord x = Check.told("t19;w3 5 8 9 4 3 6;w8 0 7 0 0 5 0;w7 3 5 0 0 0 0;w5 4 0 9 1 8 3;");
+        int[][] letters = {{3, 0}, {1, 2}, {3, 0}, {3, 4}, {2, 0}, {3, 1}};
+        for (int[] letter : letters) {
+            x.writes(letter[0], letter[1]);
+        }
+        x.day();
+        Check.due("19 in 201 DAYS", NONE, x.lateFirst(0));
+        Check.due("19 in 201 DAYS", NONE, x.lateFirst(1));
+        x.day();
+        Check.due("19 in 200 DAYS", 200, x.lateFirst(0));
+        int who = x.lateFirst(1);
+        Check.days(x, 199);
+        int late = 0;
+        for (int w = 0; w < 4; w++) {
+            late += x.writer(w, 9);
+        }
+        Check.due("19 nobody LATE in 199 DAYS", 0, late);
+        x.day();
+        Check.due("19 he is LATE in 200 DAYS", 1, x.writer(who, 9));
     }
 
     private static void peace() {

@@ -2,7 +2,7 @@ import java.util.Random;
 
 /** Promises 1 to 31 once more: random runs of calls, always the same ones, against the model. */
 public final class ModelTest {
-    private static final int RUNS = 3000;
+    private static final int RUNS = 1500;
     private static final int CALLS = 512;
     private static final int CALLS_FOR_A_TEXT = 201;
 
@@ -28,12 +28,12 @@ public final class ModelTest {
 
     private void go() {
         if (random.nextInt(20) > 0) {
-            tell();
+            tell(paperText(2 + random.nextInt(5)));
         }
         int most = CALLS - random.nextInt(300);
         while (calls < most) {
-            if (calls + CALLS_FOR_A_TEXT < most && random.nextInt(300) == 0) {
-                tell();
+            if (calls + CALLS_FOR_A_TEXT < most && random.nextInt(100) == 0) {
+                tell(paperText(random.nextInt(4) == 0 ? random.nextInt(8) : random.nextInt(4)));
             } else {
                 call();
             }
@@ -48,8 +48,8 @@ public final class ModelTest {
 
     // ---- texts
 
-    private void tell() {
-        String text = paperText();
+    private void tell(String told) {
+        String text = told;
         if (random.nextInt(4) == 0) {
             text = spoilt(text);
         }
@@ -59,9 +59,8 @@ public final class ModelTest {
         same("paper() of '" + text + "'", model.paper(), x.paper());
     }
 
-    private String paperText() {
+    private String paperText(int writers) {
         StringBuilder text = new StringBuilder();
-        int writers = random.nextInt(8) == 0 ? random.nextInt(8) : 2 + random.nextInt(5);
         int termAt = random.nextInt(writers + 2);
         int most = random.nextBoolean() ? 9 : 2;
         int nearby = 1 + random.nextInt(9);

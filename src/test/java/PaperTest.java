@@ -8,6 +8,7 @@ public final class PaperTest {
         clear();
         paperItems();
         paperFaults();
+        paperAgain();
         paperTellsAnew();
         paperRefusedChangesNothing();
         writer();
@@ -154,6 +155,28 @@ public final class PaperTest {
         fault("t5;" + " ".repeat(196) + "w", 200);
     }
 
+    private static void paperAgain() {
+        LastWord x = new LastWord();
+        Check.type(x, "t19;");
+        x.clear();
+        Check.type(x, "t1");
+        Check.due("4 no letter of an older text counts", -12, x.paper());
+        Check.type(x, ";");
+        Check.due("4 the rest of it", 1, x.paper());
+        Check.due("4 TERM", 1, x.count(1));
+        for (int i = 0; i < 3; i++) {
+            Check.type(x, "w1 5 0 0 0 0 0;");
+            Check.due("4 paper() again", 1, x.paper());
+            Check.due("4 TERM as at first", 9, x.count(1));
+            Check.due("4 WRITERS of this text alone", 1, x.count(0));
+        }
+        Check.type(x, "t3;x");
+        x.paper();
+        x.clear();
+        x.paper();
+        Check.due("4 TERM not from a text with a fault", 9, x.count(1));
+    }
+
     private static LastWord busy() {
         LastWord x = Check.told("t1;w2 5 9 0 0 0 0;w2 5 9 0 0 0 0;");
         x.writes(0, 0);
@@ -167,6 +190,10 @@ public final class PaperTest {
 
     private static void paperTellsAnew() {
         LastWord x = busy();
+        x.undo();
+        x.writes(1, 0);
+        x.day();
+        Check.due("4 LATE before", 1, x.writer(0, 9));
         Check.type(x, "w3 2 0 0 0 0 0;w1 5 0 0 0 0 0;w1 5 0 0 0 0 0;");
         Check.due("4 paper()", 3, x.paper());
         Check.due("4 WRITERS anew", 3, x.count(0));
@@ -178,6 +205,7 @@ public final class PaperTest {
         }
         Check.due("4 PEN anew", 3, x.writer(0, 0));
         Check.due("4 LAID anew", 0, x.writer(0, 7));
+        Check.due("4 LATE anew", 0, x.writer(0, 9));
         Check.due("4 LATE anew", 0, x.writer(1, 9));
         Check.due("4 quarrel(0, 0) anew", LastWord.BAD, x.quarrel(0, 0));
         Check.due("4 undo() anew", LastWord.STATE, x.undo());
