@@ -15,6 +15,7 @@ public final class EdgeAheadTest {
         endsAsDaysGoBy();
         endsAtLast();
         endsNever();
+        endsWhateverWasAsked();
         roundAtItsEdges();
         roundRefusedInOrder();
         lastAtItsEdges();
@@ -23,6 +24,8 @@ public final class EdgeAheadTest {
         keepsToTheDay();
         keepsOfSix();
         keepsInWhicheverOrder();
+        keepsTheMostOfThree();
+        keepsNotWhatIsLate();
         keepsOfNothing();
         lateFirstToTheDay();
         lateFirstOfSeveral();
@@ -133,6 +136,17 @@ public final class EdgeAheadTest {
         Check.due("14 goes round", NONE, x.ends(0));
         x.lays(1);
         Check.due("14 the answer OWED is the last", 1, x.ends(0));
+    }
+
+    private static void endsWhateverWasAsked() {
+        LastWord x = Check.told("w1 5 1 0 0 0 0;w1 5 1 9 0 0 0;");
+        x.writes(0, 1);
+        Check.due("15 on 0 it goes round", NONE, x.round(0, 0, 0));
+        Check.due("14 on 1 it ENDS", 1, x.ends(0));
+        Check.due("20 on 1 it ENDS", 0, x.peace(0));
+        Check.due("15 on 1 it ENDS", 2, x.round(0, 1, 0));
+        x.writes(0, 0);
+        Check.due("14 on 0 it goes round", NONE, x.ends(1));
     }
 
     // "ROUND: how many LETTERS there are (its own too) till it is CLOSED: as many; NONE: it goes round; who has the
@@ -269,6 +283,35 @@ public final class EdgeAheadTest {
         Check.due("18 with all but 2 DAYS gone", 1, x.keeps(2));
         x.day();
         Check.due("18 too late for both", 0, x.keeps(2));
+    }
+
+    private static void keepsTheMostOfThree() {
+        // on DAY 3, 1 has 1 left of QUARREL 0 till DAY 7, 4 of 1 till DAY 8, 4 of 2 till DAY 7: 0 and 1, or 2 alone
+        LastWord x = Check.told("t7;" + QUIET + "w4 5 9 0 9 8 0;w1 2 0 9 0 0 0;w9 5 0 0 0 9 0;");
+        x.writes(0, 0);
+        x.writes(0, 1);
+        x.writes(0, 3);
+        Check.days(x, 3);
+        x.lays(3);
+        int[] printed = {0, 1, 0};
+        int[] work = {1, 4, 4};
+        for (int q = 0; q < 3; q++) {
+            Check.due("6 who OWES " + q, 1, x.quarrel(q, 3));
+            Check.due("6 the DAY of " + q, printed[q], x.quarrel(q, 2));
+            Check.due("6 WORK of " + q, work[q], x.quarrel(q, 4));
+        }
+        Check.due("18 two of three", 2, x.keeps(1));
+    }
+
+    private static void keepsNotWhatIsLate() {
+        LastWord x = Check.told("t2;" + QUIET + "w9 5 9 0 0 0 0;w1 5 8 0 0 0 0;");
+        x.writes(0, 0);
+        Check.days(x, 2);
+        x.lays(1);
+        x.writes(0, 0);
+        Check.due("6 LATE", 1, x.quarrel(0, 5));
+        Check.due("5 OWED by 2", 2, x.writer(2, 8));
+        Check.due("18 there is time for both, but for one it is too late", 1, x.keeps(2));
     }
 
     private static void keepsOfNothing() {
