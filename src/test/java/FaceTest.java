@@ -24,6 +24,8 @@ public final class FaceTest {
     private static final String[] BANNED = {
         "\\b(throw|throws|try|catch|finally|synchronized|assert|import|equals|hashCode|toString|Random)\\b",
         "->", "::", "Exact\\b", "static\\s*\\{"};
+    private static final Set<String> LIBRARY = Set.of("Integer.bitCount", "Math.min", "System.arraycopy");
+    private static final int MOST_LINES = 60, MOST_PARAMETERS = 7, MOST_FIELDS = 20;
 
     public static void main(String[] args) throws IOException {
         constants();
@@ -33,7 +35,9 @@ public final class FaceTest {
             Check.due(inside + " is static", 1, Modifier.isStatic(inside.getModifiers()) ? 1 : 0);
             Check.due(inside + " is not public", 0, Modifier.isPublic(inside.getModifiers()) ? 1 : 0);
             noPublicName(inside);
+            size(inside);
         }
+        size(LastWord.class);
         Check.due("some twelve classes", 1, LastWord.class.getDeclaredClasses().length < 12 ? 1 : 0);
         source();
         Check.end();
@@ -101,6 +105,43 @@ public final class FaceTest {
         Check.due("LastWord is final", 1, Modifier.isFinal(LastWord.class.getModifiers()) ? 1 : 0);
     }
 
+    /** Rules 5 and 11: what is static is final; fields, parameters. */
+    private static void size(Class<?> type) {
+        int fields = 0;
+        for (Field field : type.getDeclaredFields()) {
+            if (Modifier.isStatic(field.getModifiers())) {
+                Check.due(field + " is final", 1, Modifier.isFinal(field.getModifiers()) ? 1 : 0);
+            } else {
+                fields++;
+            }
+        }
+        Check.due(type + ": " + fields + " fields are too many", 0, fields > MOST_FIELDS ? 1 : 0);
+        for (Method method : type.getDeclaredMethods()) {
+            Check.due(method + " has too many parameters", 0, method.getParameterCount() > MOST_PARAMETERS ? 1 : 0);
+        }
+    }
+
+    /** Rule 4: nothing of the library but what is used now; another name is looked up there before it comes in here. */
+    private static void library(String code) {
+        Matcher matcher = Pattern.compile("\\b[A-Z]\\w*[a-z]\\w*\\.\\w+").matcher(code);
+        while (matcher.find()) {
+            Check.due(matcher.group() + " is known", 1, LIBRARY.contains(matcher.group()) ? 1 : 0);
+        }
+    }
+
+    /** Rule 11: lines from a method's head to the brace that stands as far in as it. */
+    private static void methodsAreShort(String code) {
+        Matcher matcher = Pattern.compile("(?ms)^( {4}| {8})(?! )[^\\n]*\\) \\{\\n(.*?)^\\1\\}").matcher(code);
+        int methods = 0;
+        while (matcher.find()) {
+            methods++;
+            long lines = matcher.group().lines().count();
+            Check.due(matcher.group().lines().findFirst().orElse("") + " has " + lines + " lines", 0,
+                lines > MOST_LINES ? 1 : 0);
+        }
+        Check.due("methods are found", 1, methods > FACE.length ? 1 : 0);
+    }
+
     private static void source() throws IOException {
         String code = Files.readString(Path.of("src/main/java/LastWord.java"))
             .replaceAll("(?s)/\\*.*?\\*/", " ").replaceAll("//[^\\n]*", " ");
@@ -108,6 +149,8 @@ public final class FaceTest {
             Matcher matcher = Pattern.compile(banned).matcher(code);
             Check.due("'" + banned + "' in the source", 0, matcher.find() ? 1 : 0);
         }
+        library(code);
+        methodsAreShort(code);
         for (String line : code.split("\n")) {
             Check.due("a tab in '" + line + "'", -1, line.indexOf('\t'));
         }
